@@ -598,6 +598,9 @@ public final class WordSlides {
         if (!isSlope(slope) || !isPlace(place) || !within(i, NONE, BRING_WORDS - 1)) {
             return NONE;
         }
+        if (valley.below[slope] == NONE && valley.gorge[slope] == 0) {
+            return NONE; // what slides there is harm at once
+        }
         bringing.begin(slope, place);
         for (int n = 1; n <= BRING_WORDS; n++) {
             if (bringing.search(0, n, 0)) {
@@ -1532,15 +1535,21 @@ public final class WordSlides {
         int value(int[] steps, int from) {
             int top = 0;
             int i = from;
-            for (int n = 0; n < MOST_STEPS && within(i, 0, steps.length - 1); n++) {
+            for (int n = 0; n < MOST_STEPS && i >= 0 && i < steps.length; n++) {
                 int kind = steps[i] >> STEP_SHIFT;
                 int with = steps[i] & STEP_MASK;
                 i++;
                 if (kind == STEP_END) {
                     break;
-                } else if (kind == STEP_NUMBER || kind == STEP_KNOWN) {
+                }
+                if (kind == STEP_NUMBER || kind == STEP_KNOWN) {
+                    if (top >= MOST_PARTS || kind == STEP_KNOWN && with >= ALL_KNOWN) {
+                        return BROKEN;
+                    }
                     stack[top] = kind == STEP_NUMBER ? with : known[with];
                     top++;
+                } else if (top < 1) {
+                    return BROKEN;
                 } else if (kind == STEP_NOT) {
                     stack[top - 1] = 1 - stack[top - 1];
                 } else if (kind == STEP_AND || kind == STEP_OR) {
@@ -1551,13 +1560,14 @@ public final class WordSlides {
                     }
                 } else {
                     top--;
-                    stack[top - 1] = joined(kind, stack[top - 1], stack[top]);
-                    if (stack[top - 1] == BROKEN) {
+                    int joint = top < 1 ? BROKEN : joined(kind, stack[top - 1], stack[top]);
+                    if (joint == BROKEN) {
                         return BROKEN;
                     }
+                    stack[top - 1] = joint;
                 }
             }
-            return stack[0];
+            return top > 0 ? stack[0] : BROKEN;
         }
 
         private static int joined(int kind, long a, long b) {
