@@ -19,6 +19,9 @@ public final class PaperTest {
         int runs = args.length > 0 ? Integer.parseInt(args[0]) : 1200;
         for (int seed = 0; seed < runs && wrong == 0; seed++) {
             valley(new Random(seed), seed);
+            if (seed % 20 == 0) {
+                manySnows(new Random(seed), seed);
+            }
         }
         System.out.println(wrong == 0 ? checked + " answers on paper are as due" : wrong + " answers are not as due");
         if (wrong != 0) {
@@ -61,6 +64,32 @@ public final class PaperTest {
             }
         }
         ask(r, seed, x, y, words);
+    }
+
+    /** Each word brings down a slope of its own onto the last one, whose snow so takes many values. */
+    private static void manySnows(Random r, int seed) {
+        WordSlides x = new WordSlides();
+        Naive y = new Naive();
+        for (int i = 0; i < 5; i++) {
+            due(seed, "word", x.word(1, 0, 0), y.word(1, 0, 0));
+            put(seed, x, y, i, 0, 1 + r.nextInt(40));
+            put(seed, x, y, i, 1, y.of(i, 0));
+            put(seed, x, y, i, 2, 5);
+        }
+        put(seed, x, y, 5, 0, r.nextInt(30));
+        put(seed, x, y, 5, 1, 60 + r.nextInt(80));
+        put(seed, x, y, 5, 3, 1);
+        String law = "shakes 0;shakes 1 if word = slope;shakes [snow * " + (1 + r.nextInt(9)) + " + word] % " + (5 + r.nextInt(20))
+            + " if slope = 5";
+        Texts.feed(x, law);
+        Texts.feed(y, law);
+        due(seed, "law", x.law(), y.law());
+        due(seed, "force", x.force(0), y.force(0));
+        for (int slope = 4; slope < 6; slope++) {
+            for (int i = -1; i < 3; i++) {
+                due(seed, "many bring " + slope + " " + i, x.bring(slope, 0, i), y.bring(slope, 0, i));
+            }
+        }
     }
 
     private static void slopes(Random r, int seed, WordSlides x, Naive y) {

@@ -801,6 +801,32 @@ public final class PromisesTest {
         due("29 harm at once", y.bring(0, 0, NONE), 2);
         due("29 emptied first", y.bring(0, 0, 0), 3);
         due("29 then brought", y.bring(0, 0, 1), 0);
+        // What slid has no strain left: 50 come onto slope 1 then, which bears 65.
+        y.force(Texts.law(y, "shakes 0;shakes 1 if word = 0 and slope = 0;shakes 20 if word = 1 and slope = 1"));
+        y.put(1, 1, 65);
+        y.put(2, 1, 80);
+        due("29 strain is gone", y.bring(0, 0, NONE), 2);
+        due("29 strain is gone", y.bring(0, 0, 0), 3);
+        due("29 strain is gone", y.bring(0, 0, 1), 0);
+        y.put(2, 1, 59);
+        due("29 harm by the first", y.bring(0, 0, NONE), NONE);
+        bringsByDay();
+    }
+
+    private static void bringsByDay() {
+        WordSlides x = new WordSlides();
+        x.word(1, 0, 0);
+        x.put(0, 0, 70);
+        x.put(0, 1, 100);
+        x.put(0, 3, 1);
+        x.force(Texts.law(x, "shakes day;bars if day = 31 and loud < 3"));
+        x.terms(0, 16);
+        x.weather(0, 0);
+        due("29 day", x.bring(0, 0, NONE), 2);
+        x.terms(0, 10);
+        due("29 day", x.bring(0, 0, NONE), NONE);
+        x.terms(0, 31);
+        due("29 day", x.bring(0, 0, 0), 2);
     }
 
     private static void threats() {
@@ -1065,6 +1091,45 @@ public final class PromisesTest {
         due("38 snow", x.of(0, 0), 0);
         due("39 refusals are not kept", x.count(8), 3);
         keptAside();
+        betweenImages();
+    }
+
+    /** Laws and lists of one image are not those of the other, though their numbers are. */
+    private static void betweenImages() {
+        WordSlides x = new WordSlides();
+        x.word(2, 0, 0);
+        x.word(9, 0, 0);
+        x.image(1);
+        Texts.law(x, "falls 21");
+        x.force(0);
+        x.mean(1);
+        x.talk(0, 2, 1);
+        x.seen(1, 30, 1);
+        x.image(0);
+        x.back(1);
+        Texts.law(x, "falls 22");
+        x.force(0);
+        x.mean(0);
+        x.talk(1, 3, 3);
+        x.seen(2, 40, 0);
+        x.image(1);
+        x.put(0, 0, 20);
+        x.put(0, 1, 22);
+        due("38 talk", x.plan(1, NONE), NONE);
+        due("38 saying", x.saying(0, 1, 1), 1);
+        due("38 back", x.back(0), 0);
+        due("38 law", x.weather(0, 0), 21);
+        due("38 saying", x.saying(0, 1, 1), 0);
+        due("38 seen", x.holds(1, 1), 29);
+        due("38 seen", x.holds(2, 0), 1);
+        x.put(0, 0, 20);
+        x.put(0, 1, 21);
+        due("38 talk, 1 by word 0", x.plan(1, NONE), 1);
+        due("38 back", x.back(1), 0);
+        due("38 law", x.weather(0, 0), 22);
+        due("38 saying", x.saying(0, 1, 2), 0);
+        due("38 seen", x.holds(1, 1), 9999);
+        due("38 seen", x.holds(2, 0), 40);
     }
 
     private static void keptAside() {
