@@ -1642,7 +1642,7 @@ public final class WordSlides {
          * As long as nothing slides, the order of words makes no difference: of the rows that differ in the order of
          * words with one meaning the first alone is looked at, and stands for as many as ways tells.
          */
-        void search(int i, int longs, int ways) {
+        private void search(int i, int longs, int ways) {
             if (i >= valley.meant) {
                 note(longs, ways);
                 return;
@@ -1737,7 +1737,7 @@ public final class WordSlides {
             rows = 0;
         }
 
-        void search(int talk) {
+        private void search(int talk) {
             if (talk >= valley.talkCount) {
                 if (rows == 0) {
                     System.arraycopy(chosen, 0, first, 0, MOST_TALKS);
@@ -1822,7 +1822,7 @@ public final class WordSlides {
          * Behind a calm option, by which nothing slid, one of a lower number that is calm too is passed over: the
          * same two have been tried the other way round.
          */
-        boolean search(int level, int left, int calm) {
+        private boolean search(int level, int left, int calm) {
             lookUp(level);
             if (!canReach(level, left)) {
                 return false;

@@ -2,12 +2,16 @@ import java.util.Random;
 
 /** Runs of drawn calls (of fixed seeds), each answer compared with that of Naive. */
 public final class RandomRunsTest {
+    /** An object is used for at most so many calls; a text takes up to 27 with all that is asked behind it. */
+    private static final int MOST_CALLS = 512;
+    private static final int CALLS_AT_ONCE = 30;
     private static int wrong;
     private final Random random;
     private final WordSlides x = new WordSlides();
     private final Naive y = new Naive();
     private final StringBuilder log = new StringBuilder();
     private final int most;
+    private int made;
 
     private RandomRunsTest(long seed) {
         random = new Random(seed);
@@ -29,7 +33,7 @@ public final class RandomRunsTest {
     private void run(int seed) {
         int calls = 60 + random.nextInt(300);
         prepare();
-        for (int i = 0; i < calls; i++) {
+        for (int i = 0; i < calls && made < MOST_CALLS - CALLS_AT_ONCE; i++) {
             if (!call(random.nextInt(100)) || !same("status()", x.status(), y.status)) {
                 wrong++;
                 System.out.println("seed " + seed + ":\n" + log);
@@ -39,6 +43,7 @@ public final class RandomRunsTest {
     }
 
     private boolean same(String call, int got, int due) {
+        made++;
         log.append(call).append(" answered ").append(got);
         if (got != due) {
             log.append(", due is ").append(due);
