@@ -1136,13 +1136,13 @@ public final class WordSlides {
 
         private void scan() {
             int n = 0;
+            int stop = 0;
             for (int i = 0; i < length; i++) {
-                if (tape[i] != ' ') {
-                    int stop = tokenEnd(i);
+                if (i >= stop && tape[i] != ' ') {
+                    stop = tokenEnd(i);
                     places[n] = i;
                     tokens[n] = tokenOf(i, stop);
                     n++;
-                    i = stop - 1;
                 }
             }
             places[n] = length;
