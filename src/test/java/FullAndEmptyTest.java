@@ -124,16 +124,17 @@ public final class FullAndEmptyTest {
     private static WordSlides full() {
         WordSlides x = Valleys.busy();
         x.end(0);
-        while (x.count(1) < 5) {
+        // busy() has 2 MEANINGS, 1 TALK, 2 SEEN, 1 LAW.
+        for (int i = 2; i < 5; i++) {
             x.mean(0);
         }
-        while (x.count(2) < 6) {
+        for (int i = 1; i < 6; i++) {
             x.talk(0, 0, 1);
         }
-        while (x.count(3) < 10) {
+        for (int i = 2; i < 10; i++) {
             x.seen(1, 400, 0);
         }
-        while (x.count(4) < 6) {
+        for (int i = 1; i < 6; i++) {
             Texts.law(x, "falls 1");
         }
         Texts.told(x, "nonsense");

@@ -43,6 +43,8 @@ public final class PaperEdgesTest {
         fromAnotherPlace();
         ofSnowOne();
         strainWithoutSnow();
+        byTheLastOfSixteenWords();
+        notByWordsThatAreGone();
         nothingIsDone();
         C.finish();
     }
@@ -658,6 +660,47 @@ public final class PaperEdgesTest {
         C.due("30 nothing SLIDES", x.threat(5, 0, 0), NONE);
         x.force(Texts.law(x, "falls 1;falls 2 if slope = 5"));
         C.due("28 SNOW 2 is above HOLD 1", x.plan(2, NONE), NONE);
+    }
+
+    /** All 16 WORDS there can be, and the 16th alone does. */
+    private static void byTheLastOfSixteenWords() {
+        WordSlides x = Valleys.withWords(16);
+        Valleys.slope(x, 0, 100, 105, NONE, 1);
+        x.force(Texts.law(x, "shakes 0;shakes 2 * loud if word = 15;falls 0"));
+        // WORD 15 is of MEANING 7, as WORD 7, and of LONG 7; WORD 7 is of LONG 8.
+        x.mean(7);
+        C.due("25 the 16th", x.saying(0, 1, 2), 15);
+        C.due("29 the 16th, LOUD 3", x.bring(0, 0, NONE), 1);
+        C.due("29 the 16th, LOUD 3", x.bring(0, 0, 0), 47);
+        C.due("30 2, 2, then it SLIDES", x.threat(0, 0, 0), 0);
+        x.put(0, 1, 103);
+        C.due("30 2, then it SLIDES", x.threat(0, 0, 1), 1);
+        C.due("30 the 16th", x.threat(0, 0, 2), 15);
+        x.put(0, 1, 118);
+        C.due("29 the 16th thrice is not above 18", x.bring(0, 0, NONE), NONE);
+        x.put(0, 1, 117);
+        C.due("29 the 16th thrice", x.bring(0, 0, NONE), 3);
+        C.due("29 the 16th thrice", x.bring(0, 0, 2), 47);
+    }
+
+    /** BACK to fewer WORDS, nothing of those behind them may be left. */
+    private static void notByWordsThatAreGone() {
+        for (int left = 0; left < 3; left++) {
+            WordSlides x = Valleys.withWords(left);
+            Valleys.slope(x, 0, 100, 105, NONE, 1);
+            String law = "shakes 0;shakes 5 if word > " + (left - 1) + ";shakes 6 if word > " + (left - 1) + " and loud > 1";
+            x.force(Texts.law(x, law.replace("> -1", "> 0 - 1")));
+            x.image(0);
+            for (int i = left; i < 16; i++) {
+                x.word(1, 0, 0);
+            }
+            C.due("29 by a new one", x.bring(0, 0, 0), left * 3 + 1);
+            C.due("30 by the new ones", x.threat(0, 0, 1), 16 - left);
+            x.back(0);
+            C.due("29 they are gone", x.bring(0, 0, NONE), NONE);
+            C.due("30 they are gone", x.threat(0, 0, 0), 0);
+            C.due("30 they are gone", x.threat(0, 0, 1), 0);
+        }
     }
 
     /** On paper nothing of the valley changes. */
