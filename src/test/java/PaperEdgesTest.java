@@ -26,6 +26,7 @@ public final class PaperEdgesTest {
         bringOverHold();
         bringLeavesNothingWhereItSlid();
         bringByLowerWordsBehindASlide();
+        bringOfAllSix();
         threatWithoutSnow();
         threatAtHold();
         threatOfWordsThatShake();
@@ -39,8 +40,10 @@ public final class PaperEdgesTest {
         theSumToTryNext();
         signsOfFew();
         signsOfMany();
+        signsOfAllLengths();
         byTheDayThatItIs();
         fromAnotherPlace();
+        bySnowAsItIs();
         ofSnowOne();
         strainWithoutSnow();
         byTheLastOfSixteenWords();
@@ -384,6 +387,23 @@ public final class PaperEdgesTest {
         C.due("29 a lower one", x.bring(1, 0, 1), 0);
     }
 
+    /** Each lies above the next one, all with SNOW at HOLD: any WORD that shakes them brings all down. */
+    private static void bringOfAllSix() {
+        WordSlides x = Valleys.withWords(2);
+        for (int slope = 0; slope < 6; slope++) {
+            Valleys.slope(x, slope, 10, 10, slope < 5 ? slope + 1 : NONE, 1);
+        }
+        // WORD 0 shakes by 0, 1, 2, as it is LONG 1 and FAR 1.
+        for (int slope = 0; slope < 6; slope++) {
+            C.due("29 SLOPE " + slope, x.bring(slope, 0, NONE), 1);
+            C.due("29 SLOPE " + slope, x.bring(slope, 0, 0), 1);
+        }
+        x.put(5, 3, 0);
+        for (int slope = 0; slope < 6; slope++) {
+            C.due("29 HARM, SLOPE " + slope, x.bring(slope, 0, NONE), NONE);
+        }
+    }
+
     private static void threatWithoutSnow() {
         WordSlides x = Valleys.threatened();
         x.put(2, 0, 0);
@@ -584,6 +604,30 @@ public final class PaperEdgesTest {
         C.due("34 five", often(5, 4, 3, 2, 1).signs(), 3 + 6 + 9 + 15);
     }
 
+    /** No row is the beginning of another one just if lengths are so that 1/2 to the power of each are 1 at most together. */
+    private static void signsOfAllLengths() {
+        int[][] cases = {{1, 99}, {3, 3, 5}, {1, 2, 4, 8}, {7, 7, 7, 7}, {1, 1, 1, 1, 9}, {5, 9, 12, 13, 16}, {2, 2, 3, 3, 4, 4},
+            {99, 98, 50, 49, 2, 1}};
+        for (int[] each : cases) {
+            C.due("34 of all lengths that can be", often(each).signs(), least(each, 0, 1 << each.length));
+        }
+    }
+
+    /** The least sum from word i on, with so much left of 1 (as a number of 1 / 2 to the power of how many there are). */
+    private static int least(int[] often, int i, int left) {
+        if (i == often.length) {
+            return 0;
+        }
+        int best = 1000000;
+        for (int length = 1; length <= often.length; length++) {
+            int part = 1 << often.length - length;
+            if (part <= left) {
+                best = Math.min(best, often[i] * length + least(often, i + 1, left - part));
+            }
+        }
+        return best;
+    }
+
     /** A law of the DAY, straight behind terms(). */
     private static void byTheDayThatItIs() {
         WordSlides x = spoken(5);
@@ -630,6 +674,25 @@ public final class PaperEdgesTest {
             C.due("30 PLACE " + place, x.threat(0, place, 2), 0);
             C.due("29 PLACE " + place, x.bring(0, place, 0), 1);
             C.due("29 another PLACE", x.bring(0, (place + 1) % 4, NONE), NONE);
+        }
+    }
+
+    /** A law of SNOW: asked as it is now, on paper of later DAYS as it is then. */
+    private static void bySnowAsItIs() {
+        for (int room = 9; room <= 10; room++) {
+            WordSlides x = talking(room, 1, "shakes snow / 10;falls 0");
+            x.mean(1);
+            boolean fits = room == 10;
+            C.due("25 10 on room for " + room, x.saying(0, 1, 0), fits ? 6 : NONE);
+            C.due("28 10 on room for " + room, x.plan(1, NONE), fits ? 1 : NONE);
+            C.due("29 10 on room for " + room, x.bring(0, 0, NONE), fits ? 2 : 1);
+            C.due("30 10 on room for " + room, x.threat(0, 0, 1), fits ? 3 : 0);
+        }
+        // Tomorrow there is SNOW of 120, which is shaken by 12.
+        for (int room = 31; room <= 32; room++) {
+            WordSlides x = talking(room, 1, "shakes snow / 10;falls 20");
+            C.due("28 tomorrow 32 are needed of " + room, x.plan(2, NONE), room - 30);
+            C.due("28 the first is now", x.plan(2, 0), 0);
         }
     }
 

@@ -23,12 +23,17 @@ public final class RulesTest {
         C.finish();
     }
 
-    private static void face() {
-        Set<String> due = new TreeSet<>(Set.of(FACE.split(" ")));
+    private static Set<String> publicNames() {
         Set<String> names = new HashSet<>();
-        for (String each : due) {
+        for (String each : FACE.split(" ")) {
             names.add(each.split("/")[0]);
         }
+        return names;
+    }
+
+    private static void face() {
+        Set<String> due = new TreeSet<>(Set.of(FACE.split(" ")));
+        Set<String> names = publicNames();
         Set<String> got = new TreeSet<>();
         for (Method m : WordSlides.class.getDeclaredMethods()) {
             if (Modifier.isPublic(m.getModifiers())) {
@@ -65,6 +70,7 @@ public final class RulesTest {
             C.due(each + " has some twenty fields", fields <= 20 ? 1 : 0, 1);
             for (Method m : each.getDeclaredMethods()) {
                 C.due(m + " has seven parameters at most", m.getParameterCount() <= 7 ? 1 : 0, 1);
+                C.due(m + " is no public name", publicNames().contains(m.getName()) ? 1 : 0, 0);
             }
         }
     }

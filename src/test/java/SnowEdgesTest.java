@@ -26,12 +26,16 @@ public final class SnowEdgesTest {
         undoPutsAllBack();
         undoPutsPeoplesPartsBack();
         barredByDay();
+        saidAsItIsCalled();
+        barredAsItIsCalled();
         winterBounds();
         winterDraws();
         winterOfBarredWords();
         winterAtTheLastDay();
         winterWithoutWords();
         winterOfOneWord();
+        winterByDayAndMood();
+        winterSaysWhatIsDrawn();
         winterIsOnPaper();
         drawnOfTheLatest();
         C.finish();
@@ -345,6 +349,46 @@ public final class SnowEdgesTest {
         C.due("18 FALLS on DAY 9", x.weather(0, 0), 9);
     }
 
+    /** WORD, PLACE and LOUD are told apart by say(), asks() and TALKS TOLD. */
+    private static void saidAsItIsCalled() {
+        WordSlides x = Valleys.withWords(4);
+        x.force(Texts.law(x, "shakes word * 100 + place * 10 + loud"));
+        x.image(0);
+        for (int code = 0; code < 4 * 4 * 3; code++) {
+            int word = code % 4;
+            int place = code / 4 % 4;
+            int loud = code / 16 + 1;
+            int due = word * 100 + place * 10 + loud;
+            C.due("17 " + due, x.asks(word, place, loud, 3, 0), due);
+            C.due("19 " + due, x.say(0, word, place, loud), 0);
+            C.due("3 STRAIN by say()", x.of(3, 8), due);
+            x.back(0);
+        }
+        for (int[] each : new int[][] {{2, 3, 1}, {0, 1, 2}, {1, 0, 3}, {3, 2, 1}, {1, 2, 3}}) {
+            String text = "say " + each[0] + " at " + each[1] + " loud " + each[2];
+            C.due("13 " + text, Texts.told(x, text), 1);
+            C.due("3 STRAIN by " + text, x.of(3, 8), each[0] * 100 + each[1] * 10 + each[2]);
+            x.back(0);
+        }
+    }
+
+    private static void barredAsItIsCalled() {
+        WordSlides x = Valleys.withWords(4);
+        x.force(Texts.law(x, "bars if word = 0 and place = 3 and loud = 2;bars if word = 3 and place = 1 and loud = 1"));
+        for (int code = 0; code < 4 * 4 * 3; code++) {
+            int word = code % 4;
+            int place = code / 4 % 4;
+            int loud = code / 16 + 1;
+            int called = word * 100 + place * 10 + loud;
+            boolean barred = called == 32 || called == 311;
+            C.due("17 BARRED " + called, x.asks(word, place, loud, 0, 1), barred ? 1 : 0);
+            C.due("19 BARRED " + called, x.say(0, word, place, loud), barred ? -3 : 0);
+        }
+        C.due("13 BARRED", Texts.told(x, "say 0 at 3 loud 2"), -3);
+        C.due("13 BARRED", Texts.told(x, "say 3 at 1 loud 1"), -3);
+        C.due("13 not BARRED", Texts.told(x, "say 0 at 2 loud 3;say 3 at 2 loud 1;say 3 at 1 loud 3;say 1 at 3 loud 2"), 4);
+    }
+
     private static void winterBounds() {
         WordSlides x = new WordSlides();
         C.due("35 one DAY", x.winter(0, 1), 0);
@@ -442,6 +486,42 @@ public final class SnowEdgesTest {
         x.force(Texts.law(x, "falls 0;shakes 0;shakes 1 if word = 0"));
         for (int seed = 0; seed < 10; seed++) {
             C.due("35 it is always WORD 0", x.winter(seed, 1), 100);
+        }
+    }
+
+    private static void winterByDayAndMood() {
+        WordSlides x = Valleys.withWords(1);
+        x.force(Texts.law(x, "falls day + mood;shakes 0;shakes 900 if day = 6;bars if day < 6"));
+        x.terms(0, 4);
+        x.terms(1, 2);
+        // At the DAWNS of DAYS 5, 6 there fall 7 and 8; on DAY 6 it is said, and 15 and 900 are above 500.
+        C.due("35 HARM", x.winter(0, 2), 0);
+        C.due("36 SNOW", x.drawn(0, 0), 15);
+        C.due("35 HARM of all six", x.winter(0, 3), 90);
+        C.due("36 SNOW of DAY 7", x.drawn(0, 0), 9);
+        C.due("39 the DAY stays", x.count(15), 4);
+        C.due("35 from the same DAY again", x.winter(0, 2), 0);
+        C.due("36 SNOW", x.drawn(5, 0), 15);
+        // STRAIN that was there counts until the first DAWN.
+        WordSlides y = valley(100, 106, "falls 0;shakes 4");
+        y.put(0, 3, 0);
+        y.say(0, 0, 0, 1);
+        C.due("35 by STRAIN of 4 and of 4", y.winter(0, 1), 100);
+        y.dawn();
+        C.due("35 by STRAIN of 4", y.winter(0, 100), 0);
+    }
+
+    /** By hand, as in winterDraws(): WORD 0 at PLACE 1, LOUD 2 from SEED 0 on, WORD 1 at PLACE 2, LOUD 2 from the last on. */
+    private static void winterSaysWhatIsDrawn() {
+        int[][] cases = {{0, 12}, {1000000, 122}};
+        for (int[] each : cases) {
+            WordSlides x = Valleys.withWords(5);
+            x.force(Texts.law(x, "falls 0;shakes word * 100 + place * 10 + loud"));
+            x.put(0, 0, 5);
+            x.put(0, 1, 5 + each[1]);
+            C.due("35 at HOLD by " + each[1], x.winter(each[0], 1), 0);
+            x.put(0, 1, 4 + each[1]);
+            C.due("35 above HOLD by " + each[1], x.winter(each[0], 1), 5);
         }
     }
 
